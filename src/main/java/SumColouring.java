@@ -1068,15 +1068,15 @@ public final class SumColouring {
             }
         }
 
-        /** One pass: a solution counts for a number if all the others of it, or all, have the colour. */
+        /** A solution counts for a number if all the others of it, or all, have the colour. */
         private void fillCharges(Setup setup, Solutions table, Colouring colouring) {
             Arrays.fill(charges, 0);
-            for (int i = 0; i < table.size(); i++) {
-                long set = table.setOf(i);
-                for (int c = 0; c < setup.colours; c++) {
-                    long missing = set & ~colouring.numbersWith(c);
+            for (int c = 0; c < setup.colours; c++) {
+                long others = ~colouring.numbersWith(c);
+                for (int i = 0; i < table.size(); i++) {
+                    long missing = table.setOf(i) & others;
                     if (missing == 0) {
-                        charge(set, c, table.weightOf(i, c));
+                        charge(table.setOf(i), c, table.weightOf(i, c));
                     } else if ((missing & (missing - 1)) == 0) {
                         charge(missing, c, table.weightOf(i, c));
                     }
