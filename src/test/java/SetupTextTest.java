@@ -89,130 +89,117 @@ public final class SetupTextTest {
         CHECKS.due("append after a load with an error", x.append(0, 0, 0, 0, 0), 20);
     }
 
-    private static void good(String text, int rules) {
-        SumColouring x = new SumColouring();
-        CHECKS.due("load \"" + text + "\"", Checks.load(x, text), rules);
-        CHECKS.due("errorOffset of \"" + text + "\"", x.errorOffset(), -1);
-    }
-
     private static void goodTexts() {
-        good("numbers 1 1;", 0);
-        good("numbers 40 4;", 0);
-        good("numbers40 4;", 0);
-        good("   numbers   0000000000000000000040   00000000000004  ;   ", 0);
-        good("numbers 9 2;equation1 1 1 0distinct;progression3;colour1 0fixed;weight0;", 2);
-        good("numbers 9 2;equation 9 9 9 99;equation 9 9 9 - 99;equation 1 1 1 -0;equation 1 1 1 00000000000000099;", 4);
-        good("numbers 9 2;progression 3;progression 6;", 2);
-        good("numbers 9 2;weight 9999+0-rule*largest/colour-(1);", 0);
-        good("numbers 9 2;weight((((1))))+((((rule))));", 0);
-        good("numbers 9 2;colour 9 1;colour 9 0 fixed;colour 9 1;", 0);
-        good("numbers 9 2;weight 00000000000000000000000009999;", 0);
-    }
-
-    private static void bad(int code, String before, String rest) {
-        String text = before + rest;
-        SumColouring x = new SumColouring();
-        CHECKS.due("load \"" + text + "\"", Checks.load(x, text), code);
-        CHECKS.due("errorOffset of \"" + text + "\"", x.errorOffset(), before.length());
+        CHECKS.dueRules(0, "numbers 1 1;");
+        CHECKS.dueRules(0, "numbers 40 4;");
+        CHECKS.dueRules(0, "numbers40 4;");
+        CHECKS.dueRules(0, "   numbers   0000000000000000000040   00000000000004  ;   ");
+        CHECKS.dueRules(2, "numbers 9 2;equation1 1 1 0distinct;progression3;colour1 0fixed;weight0;");
+        CHECKS.dueRules(4, "numbers 9 2;equation 9 9 9 99;equation 9 9 9 - 99;equation 1 1 1 -0;equation 1 1 1 00000000000000099;");
+        CHECKS.dueRules(2, "numbers 9 2;progression 3;progression 6;");
+        CHECKS.dueRules(0, "numbers 9 2;weight 9999+0-rule*largest/colour-(1);");
+        CHECKS.dueRules(0, "numbers 9 2;weight((((1))))+((((rule))));");
+        CHECKS.dueRules(0, "numbers 9 2;colour 9 1;colour 9 0 fixed;colour 9 1;");
+        CHECKS.dueRules(0, "numbers 9 2;weight 00000000000000000000000009999;");
     }
 
     private static void syntaxErrors() {
-        bad(SYNTAX, "", "number 9 2;");
-        bad(SYNTAX, "", "numbersx 9 2;");
-        bad(SYNTAX, "", "Numbers 9 2;");
-        bad(SYNTAX, "", "xumbers 9 2;");
-        bad(SYNTAX, "numbers 9 2;", "equationz 1 1 1 0;");
-        bad(SYNTAX, "numbers 9 2;", "zequation 1 1 1 0;");
-        bad(SYNTAX, "numbers 9 2;", "aequation 1 1 1 0;");
-        bad(SYNTAX, "numbers 9 2;", "equationa 1 1 1 0;");
-        bad(SYNTAX, "numbers 9 2;", "dolour 1 0;");
-        bad(SYNTAX, "numbers 9 2;", "equatio 1 1 1 0;");
-        bad(SYNTAX, "numbers 9 2;equation", "`1 1 1 0;");
-        bad(SYNTAX, "numbers 9 2;equation", "{1 1 1 0;");
-        bad(SYNTAX, "numbers 9 2;equation ", "/1 1 1 0;");
-        bad(SYNTAX, "numbers 9 2;equation ", ":1 1 1 0;");
-        bad(SYNTAX, "   ", ";");
-        bad(SYNTAX, "numbers ", ";");
-        bad(SYNTAX, "numbers", "");
-        bad(SYNTAX, "numbers   ", "");
-        bad(SYNTAX, "numbers 9 ", ";");
-        bad(SYNTAX, "numbers 9 2", "");
-        bad(SYNTAX, "numbers 9 2  ", "");
-        bad(SYNTAX, "numbers 9 2 ", "2;");
-        bad(SYNTAX, "numbers ", "-9 2;");
-        bad(SYNTAX, "numbers 9", "\t2;");
-        bad(SYNTAX, "numbers 9 2;", ";");
-        bad(SYNTAX, "numbers 9 2;", "numbers 9 2;");
-        bad(SYNTAX, "numbers 9 2;", "fixed;");
-        bad(SYNTAX, "numbers 9 2; ", "\u00e4");
-        bad(SYNTAX, "numbers 9 2; ", "\0");
-        bad(SYNTAX, "numbers 9 2;equation 1 1 1 ", ";");
-        bad(SYNTAX, "numbers 9 2;equation 1 1 1 ", "+1;");
-        bad(SYNTAX, "numbers 9 2;equation 1 1 1 -", "-1;");
-        bad(SYNTAX, "numbers 9 2;equation 1 1 ", "-1 1;");
-        bad(SYNTAX, "numbers 9 2;equation 1 1 1 0 ", "distinc;");
-        bad(SYNTAX, "numbers 9 2;equation 1 1 1 0 ", "distinctt;");
-        bad(SYNTAX, "numbers 9 2;equation 1 1 1 0 distinct ", "distinct;");
-        bad(SYNTAX, "numbers 9 2;equation 1 1 1 0", "");
-        bad(SYNTAX, "numbers 9 2;progression ", ";");
-        bad(SYNTAX, "numbers 9 2;progression 3 ", "distinct;");
-        bad(SYNTAX, "numbers 9 2;colour 1 0 ", "distinct;");
-        bad(SYNTAX, "numbers 9 2;colour 1 0 fixed ", "fixed;");
-        bad(SYNTAX, "numbers 9 2;colour 1", ";");
-        bad(SYNTAX, "numbers 9 2;weight ", ";");
-        bad(SYNTAX, "numbers 9 2;weight 1;", "weight 1;");
-        bad(SYNTAX, "numbers 9 2;weight 1;progression 3;   ", "weight 99999;");
-        bad(SYNTAX, "numbers 9 2;weight ", "-1;");
-        bad(SYNTAX, "numbers 9 2;weight 1+", ";");
-        bad(SYNTAX, "numbers 9 2;weight 1 ", "1;");
-        bad(SYNTAX, "numbers 9 2;weight ", "n;");
-        bad(SYNTAX, "numbers 9 2;weight (1", ";");
-        bad(SYNTAX, "numbers 9 2;weight 1", ");");
-        bad(SYNTAX, "numbers 9 2;weight (", ");");
-        bad(SYNTAX, "numbers 9 2;weight 2*(rule+largest", "");
-        bad(SYNTAX, "numbers 9 2;weight 2", "%2;");
-        bad(SYNTAX, "numbers 9 2;weight ((((1)))", ";");
-        bad(SYNTAX, "numbers 9 2;weight ((((1 ", "(1;");
+        CHECKS.dueError(SYNTAX, "", "number 9 2;");
+        CHECKS.dueError(SYNTAX, "", "numbersx 9 2;");
+        CHECKS.dueError(SYNTAX, "", "Numbers 9 2;");
+        CHECKS.dueError(SYNTAX, "", "xumbers 9 2;");
+        CHECKS.dueError(SYNTAX, "numbers 9 2;", "equationz 1 1 1 0;");
+        CHECKS.dueError(SYNTAX, "numbers 9 2;", "zequation 1 1 1 0;");
+        CHECKS.dueError(SYNTAX, "numbers 9 2;", "aequation 1 1 1 0;");
+        CHECKS.dueError(SYNTAX, "numbers 9 2;", "equationa 1 1 1 0;");
+        CHECKS.dueError(SYNTAX, "numbers 9 2;", "dolour 1 0;");
+        CHECKS.dueError(SYNTAX, "numbers 9 2;", "equatio 1 1 1 0;");
+        CHECKS.dueError(SYNTAX, "numbers 9 2;equation", "`1 1 1 0;");
+        CHECKS.dueError(SYNTAX, "numbers 9 2;equation", "{1 1 1 0;");
+        CHECKS.dueError(SYNTAX, "numbers 9 2;equation ", "/1 1 1 0;");
+        CHECKS.dueError(SYNTAX, "numbers 9 2;equation ", ":1 1 1 0;");
+        CHECKS.dueError(SYNTAX, "   ", ";");
+        CHECKS.dueError(SYNTAX, "numbers ", ";");
+        CHECKS.dueError(SYNTAX, "numbers", "");
+        CHECKS.dueError(SYNTAX, "numbers   ", "");
+        CHECKS.dueError(SYNTAX, "numbers 9 ", ";");
+        CHECKS.dueError(SYNTAX, "numbers 9 2", "");
+        CHECKS.dueError(SYNTAX, "numbers 9 2  ", "");
+        CHECKS.dueError(SYNTAX, "numbers 9 2 ", "2;");
+        CHECKS.dueError(SYNTAX, "numbers ", "-9 2;");
+        CHECKS.dueError(SYNTAX, "numbers 9", "\t2;");
+        CHECKS.dueError(SYNTAX, "numbers 9 2;", ";");
+        CHECKS.dueError(SYNTAX, "numbers 9 2;", "numbers 9 2;");
+        CHECKS.dueError(SYNTAX, "numbers 9 2;", "fixed;");
+        CHECKS.dueError(SYNTAX, "numbers 9 2; ", "\u00e4");
+        CHECKS.dueError(SYNTAX, "numbers 9 2; ", "\0");
+        CHECKS.dueError(SYNTAX, "numbers 9 2;equation 1 1 1 ", ";");
+        CHECKS.dueError(SYNTAX, "numbers 9 2;equation 1 1 1 ", "+1;");
+        CHECKS.dueError(SYNTAX, "numbers 9 2;equation 1 1 1 -", "-1;");
+        CHECKS.dueError(SYNTAX, "numbers 9 2;equation 1 1 ", "-1 1;");
+        CHECKS.dueError(SYNTAX, "numbers 9 2;equation 1 1 1 0 ", "distinc;");
+        CHECKS.dueError(SYNTAX, "numbers 9 2;equation 1 1 1 0 ", "distinctt;");
+        CHECKS.dueError(SYNTAX, "numbers 9 2;equation 1 1 1 0 distinct ", "distinct;");
+        CHECKS.dueError(SYNTAX, "numbers 9 2;equation 1 1 1 0", "");
+        CHECKS.dueError(SYNTAX, "numbers 9 2;progression ", ";");
+        CHECKS.dueError(SYNTAX, "numbers 9 2;progression 3 ", "distinct;");
+        CHECKS.dueError(SYNTAX, "numbers 9 2;colour 1 0 ", "distinct;");
+        CHECKS.dueError(SYNTAX, "numbers 9 2;colour 1 0 fixed ", "fixed;");
+        CHECKS.dueError(SYNTAX, "numbers 9 2;colour 1", ";");
+        CHECKS.dueError(SYNTAX, "numbers 9 2;weight ", ";");
+        CHECKS.dueError(SYNTAX, "numbers 9 2;weight 1;", "weight 1;");
+        CHECKS.dueError(SYNTAX, "numbers 9 2;weight 1;progression 3;   ", "weight 99999;");
+        CHECKS.dueError(SYNTAX, "numbers 9 2;weight ", "-1;");
+        CHECKS.dueError(SYNTAX, "numbers 9 2;weight 1+", ";");
+        CHECKS.dueError(SYNTAX, "numbers 9 2;weight 1 ", "1;");
+        CHECKS.dueError(SYNTAX, "numbers 9 2;weight ", "n;");
+        CHECKS.dueError(SYNTAX, "numbers 9 2;weight (1", ";");
+        CHECKS.dueError(SYNTAX, "numbers 9 2;weight 1", ");");
+        CHECKS.dueError(SYNTAX, "numbers 9 2;weight (", ");");
+        CHECKS.dueError(SYNTAX, "numbers 9 2;weight 2*(rule+largest", "");
+        CHECKS.dueError(SYNTAX, "numbers 9 2;weight 2", "%2;");
+        CHECKS.dueError(SYNTAX, "numbers 9 2;weight ((((1)))", ";");
+        CHECKS.dueError(SYNTAX, "numbers 9 2;weight ((((1 ", "(1;");
     }
 
     private static void rangeErrors() {
-        bad(RANGE, "numbers ", "0 2;");
-        bad(RANGE, "numbers ", "41 9;");
-        bad(RANGE, "numbers ", "41");
-        bad(RANGE, "numbers 40 ", "0;");
-        bad(RANGE, "numbers 40 ", "5;");
-        bad(RANGE, "numbers 40   ", "00000000000005 ;");
-        bad(RANGE, "numbers ", "4294967297 2;");
-        bad(RANGE, "numbers ", "18446744073709551617 2;");
-        bad(RANGE, "numbers ", "100000000000000000000000000000000000000000000000000000000000001 2;");
-        bad(RANGE, "numbers 9 2;equation ", "0 1 1 0;");
-        bad(RANGE, "numbers 9 2;equation 1 ", "10 1 0;");
-        bad(RANGE, "numbers 9 2;equation 1 1 ", "0 -100;");
-        bad(RANGE, "numbers 9 2;equation 1 1 1 ", "100;");
-        bad(RANGE, "numbers 9 2;equation 1 1 1 - ", "100;");
-        bad(RANGE, "numbers 9 2;progression ", "2;");
-        bad(RANGE, "numbers 9 2;progression ", "7;");
-        bad(RANGE, "numbers 9 2;colour ", "0 0;");
-        bad(RANGE, "numbers 9 2;colour ", "10 0;");
-        bad(RANGE, "numbers 9 2;colour 9 ", "2;");
-        bad(RANGE, "numbers 9 2;weight ", "10000;");
-        bad(RANGE, "numbers 9 2;weight 1*(2+", "0010000 x");
+        CHECKS.dueError(RANGE, "numbers ", "0 2;");
+        CHECKS.dueError(RANGE, "numbers ", "41 9;");
+        CHECKS.dueError(RANGE, "numbers ", "41");
+        CHECKS.dueError(RANGE, "numbers 40 ", "0;");
+        CHECKS.dueError(RANGE, "numbers 40 ", "5;");
+        CHECKS.dueError(RANGE, "numbers 40   ", "00000000000005 ;");
+        CHECKS.dueError(RANGE, "numbers ", "4294967297 2;");
+        CHECKS.dueError(RANGE, "numbers ", "18446744073709551617 2;");
+        CHECKS.dueError(RANGE, "numbers ", "100000000000000000000000000000000000000000000000000000000000001 2;");
+        CHECKS.dueError(RANGE, "numbers 9 2;equation ", "0 1 1 0;");
+        CHECKS.dueError(RANGE, "numbers 9 2;equation 1 ", "10 1 0;");
+        CHECKS.dueError(RANGE, "numbers 9 2;equation 1 1 ", "0 -100;");
+        CHECKS.dueError(RANGE, "numbers 9 2;equation 1 1 1 ", "100;");
+        CHECKS.dueError(RANGE, "numbers 9 2;equation 1 1 1 - ", "100;");
+        CHECKS.dueError(RANGE, "numbers 9 2;progression ", "2;");
+        CHECKS.dueError(RANGE, "numbers 9 2;progression ", "7;");
+        CHECKS.dueError(RANGE, "numbers 9 2;colour ", "0 0;");
+        CHECKS.dueError(RANGE, "numbers 9 2;colour ", "10 0;");
+        CHECKS.dueError(RANGE, "numbers 9 2;colour 9 ", "2;");
+        CHECKS.dueError(RANGE, "numbers 9 2;weight ", "10000;");
+        CHECKS.dueError(RANGE, "numbers 9 2;weight 1*(2+", "0010000 x");
     }
 
     private static void ruleErrors() {
-        bad(MANY, FOUR, "progression 3;");
-        bad(MANY, FOUR + "colour 1 0;weight 1;  ", "equation 0 0 0;");
-        bad(MANY, FOUR, "progression");
-        bad(SYNTAX, FOUR, "progressions 3;");
-        bad(SYNTAX, FOUR + "colour 1 0 ", "progression 3;");
+        CHECKS.dueError(MANY, FOUR, "progression 3;");
+        CHECKS.dueError(MANY, FOUR + "colour 1 0;weight 1;  ", "equation 0 0 0;");
+        CHECKS.dueError(MANY, FOUR, "progression");
+        CHECKS.dueError(SYNTAX, FOUR, "progressions 3;");
+        CHECKS.dueError(SYNTAX, FOUR + "colour 1 0 ", "progression 3;");
     }
 
     private static void depthErrors() {
-        bad(DEEP, "numbers 9 2;weight ((((", "(1)))));");
-        bad(DEEP, "numbers 9 2;weight ((((", "(");
-        bad(DEEP, "numbers 9 2;weight (1+(2*(3-(4/ ", "(5)))));");
-        bad(DEEP, "numbers 9 2;weight ((((1))))*((((2*", "(1)))));");
-        bad(SYNTAX, "numbers 9 2;weight ((((", ")");
+        CHECKS.dueError(DEEP, "numbers 9 2;weight ((((", "(1)))));");
+        CHECKS.dueError(DEEP, "numbers 9 2;weight ((((", "(");
+        CHECKS.dueError(DEEP, "numbers 9 2;weight (1+(2*(3-(4/ ", "(5)))));");
+        CHECKS.dueError(DEEP, "numbers 9 2;weight ((((1))))*((((2*", "(1)))));");
+        CHECKS.dueError(SYNTAX, "numbers 9 2;weight ((((", ")");
     }
 
     private static void errorsLeaveData() {

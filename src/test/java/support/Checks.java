@@ -7,8 +7,17 @@ final class Checks {
         long answer();
     }
 
+    private static final Document DOCUMENT = Document.read();
+
     private int wrong = 0;
     private int made = 0;
+    private String sentence = "";
+
+    /** Names the words of the document that the next checks are a test of; promise 0 stands for the paragraphs before promise 1. */
+    void of(int promise, String words) {
+        sentence = "promise " + promise + ", \"" + words + "\": ";
+        holds("that the document says this", DOCUMENT.says(promise, words));
+    }
 
     void due(String what, long got, long want) {
         made++;
@@ -47,9 +56,32 @@ final class Checks {
         dueThrow(what, IllegalStateException.class, call);
     }
 
+    /** A text that load takes, with so many rules. */
+    void dueRules(int rules, String text) {
+        SumColouring x = new SumColouring();
+        due("load \"" + text + "\"", load(x, text), rules);
+        due("errorOffset of \"" + text + "\"", x.errorOffset(), -1);
+    }
+
+    /** A text whose first error lies where its second part begins. */
+    void dueError(int code, String before, String rest) {
+        String text = before + rest;
+        SumColouring x = new SumColouring();
+        due("load \"" + text + "\"", load(x, text), code);
+        due("errorOffset of \"" + text + "\"", x.errorOffset(), before.length());
+        due("numbers after \"" + text + "\"", x.numberCount(), 0);
+    }
+
+    /** A call that throws, and leaves all that can be seen as it was. */
+    void dueRefused(String what, Class<? extends RuntimeException> want, SumColouring x, Call call) {
+        String before = state(x);
+        dueThrow(what, want, call);
+        due("the state after " + what, state(x), before);
+    }
+
     private void tell(String line) {
         wrong++;
-        System.out.println(line);
+        System.out.println(sentence + line);
     }
 
     int wrong() {
@@ -107,12 +139,33 @@ final class Checks {
         return x;
     }
 
-    /** The colours of 1 to n as a text, '.' for none and a capital letter for a fixed colour. */
+    /** All that can be seen of an object without a change. */
+    static String state(SumColouring x) {
+        StringBuilder line = new StringBuilder();
+        line.append("n ").append(x.numberCount()).append(" k ").append(x.colourCount()).append(' ').append(picture(x));
+        for (int rule = 0; rule < x.ruleCount(); rule++) {
+            line.append(" rule ").append(x.solutions(rule));
+        }
+        for (int i = 0; i < x.conflicts(); i++) {
+            line.append(" conflict");
+            for (int what = 0; what < 5; what++) {
+                line.append(' ').append(x.conflict(i, what));
+            }
+        }
+        for (int v = 1; v <= x.numberCount(); v++) {
+            line.append(" allowed ").append(x.allowed(v)).append(" in ").append(x.conflictsOf(v));
+        }
+        line.append(" weight ").append(x.totalWeight()).append(" gain ").append(x.bestGain());
+        return line.append(" sum ").append(x.checksum()).append(" error ").append(x.errorOffset()).toString();
+    }
+
+    /** The colours of 1 to n as a text, '.' for none ('!' if it is fixed all the same) and a capital letter for a fixed colour. */
     static String picture(SumColouring x) {
         StringBuilder line = new StringBuilder();
         for (int v = 1; v <= x.numberCount(); v++) {
             int c = x.colour(v);
-            line.append(c < 0 ? '.' : (char) ((x.isFixed(v) ? 'A' : 'a') + c));
+            boolean fixed = x.isFixed(v);
+            line.append(c < 0 ? fixed ? '!' : '.' : (char) ((fixed ? 'A' : 'a') + c));
         }
         return line.toString();
     }
